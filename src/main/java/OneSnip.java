@@ -466,6 +466,11 @@ public final class OneSnip {
             return leaf & 3;
         }
 
+        /** In cells, across or up, whichever is more: less than the size for any two leaves. */
+        int distance(int leaf, int other) {
+            return Math.max(Math.abs(x(leaf) - x(other)), Math.abs(y(leaf) - y(other)));
+        }
+
         int beside(int leaf, int edge) {
             return Rows.get(besides, 3 * leaf + edge);
         }
@@ -894,6 +899,16 @@ public final class OneSnip {
             Rows.put(flags, leaf, yes(is));
         }
 
+        /** The least leaf that is of the figure, or is not; 0 where there is none. */
+        int first(boolean drawn) {
+            for (int leaf = 0; leaf < sheet.leaves; leaf++) {
+                if (has(leaf) == drawn) {
+                    return leaf;
+                }
+            }
+            return 0;
+        }
+
         boolean isMirror(int sort, int k) {
             for (int leaf = 0; leaf < sheet.leaves; leaf++) {
                 int x = Lines.mirrorX(sort, k, sheet.x(leaf), sheet.y(leaf));
@@ -915,6 +930,7 @@ public final class OneSnip {
         private final int[] row = new int[LONGEST_WAY];
         private final int[] first = new int[LONGEST_WAY + 1];
         private int goal;
+        private boolean counting;
         private int rows;
         private int found;
         private int foundAt;
@@ -940,13 +956,7 @@ public final class OneSnip {
                 start.load(sheet, figure);
             }
             for (; tried <= most && foundAt == NONE && spentAt == NONE; tried++) {
-                goal = tried;
-                lengthen(this, start, 0);
-                if (rows > MOST_ROWS) {
-                    spentAt = goal;
-                } else if (found > 0) {
-                    foundAt = goal;
-                }
+                tryRows(tried);
             }
             if (spentAt != NONE && spentAt <= most) {
                 return SPENT;
@@ -958,6 +968,22 @@ public final class OneSnip {
             return i >= 0 && i <= length ? Rows.get(first, i) : NONE;
         }
 
+        /** Rows are counted first: where there are too many, none needs to be looked at. */
+        private void tryRows(int length) {
+            goal = length;
+            counting = true;
+            lengthen(this, start, 0);
+            if (rows > MOST_ROWS) {
+                spentAt = length;
+                return;
+            }
+            counting = false;
+            lengthen(this, start, 0);
+            if (found > 0) {
+                foundAt = length;
+            }
+        }
+
         /** In the order in which folds are told: so the first row with a cut is that of the first way. */
         private static void lengthen(Search search, Layout now, int depth) {
             Layout behind = now.next;
@@ -965,14 +991,17 @@ public final class OneSnip {
                 search.weigh(now);
                 return;
             }
-            int last = Math.min(now.lastStrip(), Lines.GREATEST);
-            for (int k = Math.max(now.firstStrip() + 1, Lines.LEAST); k <= last; k++) {
+            boolean last = depth + 1 == search.goal;
+            int end = Math.min(now.lastStrip(), Lines.GREATEST);
+            for (int k = Math.max(now.firstStrip() + 1, Lines.LEAST); k <= end; k++) {
                 for (int sort = 0; sort < Lines.SORTS; sort++) {
                     // Which side is turned makes no odds for what meets what.
                     boolean fits = search.rows <= MOST_ROWS && now.isCrossed(sort, k) && now.fits(sort, k);
-                    for (int side = 0; side < 2 && fits; side++) {
+                    boolean counted = fits && last && search.counting;
+                    search.rows += counted ? 2 : 0;
+                    for (int side = 0; side < 2 && fits && !counted; side++) {
                         Rows.put(search.row, depth, tell(sort, k, side));
-                        now.turnInto(behind, sort, k, side);
+                        now.turnInto(behind, sort, k, side, last);
                         lengthen(search, behind, depth + 1);
                     }
                 }
@@ -980,8 +1009,7 @@ public final class OneSnip {
         }
 
         private void weigh(Layout last) {
-            rows += yes(goal > 0);
-            int cuts = last.cuts();
+            int cuts = counting ? 0 : last.cuts();
             if (cuts > 0 && found == 0) {
                 for (int i = 0; i < goal; i++) {
                     Rows.put(first, i, Rows.get(row, i));
@@ -1008,38 +1036,45 @@ public final class OneSnip {
         private final int[] kinds = new int[Lines.SPOTS];
         private final int[] leasts = new int[3 * Lines.SORTS];
         private final int[] greatests = new int[3 * Lines.SORTS];
-        private int drawn;
+        private int firstKind;
+        private int split;
         private int used;
 
         Layout(Layout next) {
             this.next = next;
         }
 
+        /** The kind with fewer leaves first, then those near it: so it is soon seen that no cut parts the two. */
         void load(Sheet sheet, Figure figure) {
-            clear();
-            for (int leaf = 0; leaf < sheet.leaves; leaf++) {
-                if (figure.has(leaf)) {
-                    put(sheet.x(leaf), sheet.y(leaf), sheet.quarter(leaf), FIGURE);
-                }
-            }
-            for (int leaf = 0; leaf < sheet.leaves; leaf++) {
-                if (!figure.has(leaf)) {
-                    put(sheet.x(leaf), sheet.y(leaf), sheet.quarter(leaf), OTHERS);
+            boolean few = 2 * figure.total <= sheet.leaves;
+            int first = figure.first(few);
+            clear(few ? FIGURE : OTHERS);
+            putAround(sheet, figure, few, first);
+            putAround(sheet, figure, !few, first);
+        }
+
+        private void putAround(Sheet sheet, Figure figure, boolean drawn, int first) {
+            for (int ring = 0; ring < sheet.size; ring++) {
+                for (int leaf = 0; leaf < sheet.leaves; leaf++) {
+                    if (figure.has(leaf) == drawn && sheet.distance(leaf, first) == ring) {
+                        put(sheet.x(leaf), sheet.y(leaf), sheet.quarter(leaf), drawn ? FIGURE : OTHERS);
+                    }
                 }
             }
         }
 
-        private void clear() {
+        private void clear(int kind) {
             for (int i = 0; i < used; i++) {
                 Rows.put(kinds, Lines.spot(Rows.get(xs, i), Rows.get(ys, i), Rows.get(quarters, i)), 0);
             }
             Rows.fill(leasts, FAR);
             Rows.fill(greatests, -FAR);
-            drawn = 0;
+            firstKind = kind;
+            split = 0;
             used = 0;
         }
 
-        /** Those of the figure are put first: so they stand at the rows' beginning. */
+        /** Those of the first kind are put ahead of the others: the rows have them up to the split. */
         private void put(int x, int y, int quarter, int kind) {
             int spot = Lines.spot(x, y, quarter);
             if (Rows.get(kinds, spot) != 0) {
@@ -1050,10 +1085,14 @@ public final class OneSnip {
             Rows.put(ys, used, y);
             Rows.put(quarters, used, quarter);
             used++;
-            drawn += yes(kind == FIGURE);
+            split += yes(kind == firstKind);
             for (int sort = 0; sort < Lines.SORTS; sort++) {
-                widen(Lines.SORTS * kind + sort, Lines.strip(sort, x, y, quarter));
+                widen(row(kind, sort), Lines.strip(sort, x, y, quarter));
             }
+        }
+
+        private int secondKind() {
+            return firstKind == FIGURE ? OTHERS : FIGURE;
         }
 
         private void widen(int i, int strip) {
@@ -1061,26 +1100,22 @@ public final class OneSnip {
             Rows.put(greatests, i, Math.max(Rows.get(greatests, i), strip));
         }
 
-        private int least(int kind, int sort) {
-            return Rows.get(leasts, Lines.SORTS * kind + sort);
+        private int least(int sort) {
+            return Math.min(Rows.get(leasts, row(FIGURE, sort)), Rows.get(leasts, row(OTHERS, sort)));
         }
 
-        private int greatest(int kind, int sort) {
-            return Rows.get(greatests, Lines.SORTS * kind + sort);
+        private int greatest(int sort) {
+            return Math.max(Rows.get(greatests, row(FIGURE, sort)), Rows.get(greatests, row(OTHERS, sort)));
         }
 
-        private int leastOfAll(int sort) {
-            return Math.min(least(FIGURE, sort), least(OTHERS, sort));
-        }
-
-        private int greatestOfAll(int sort) {
-            return Math.max(greatest(FIGURE, sort), greatest(OTHERS, sort));
+        private static int row(int kind, int sort) {
+            return Lines.SORTS * kind + sort;
         }
 
         int firstStrip() {
             int strip = FAR;
             for (int sort = 0; sort < Lines.SORTS; sort++) {
-                strip = Math.min(strip, leastOfAll(sort));
+                strip = Math.min(strip, least(sort));
             }
             return strip;
         }
@@ -1088,21 +1123,21 @@ public final class OneSnip {
         int lastStrip() {
             int strip = -FAR;
             for (int sort = 0; sort < Lines.SORTS; sort++) {
-                strip = Math.max(strip, greatestOfAll(sort));
+                strip = Math.max(strip, greatest(sort));
             }
             return strip;
         }
 
         boolean isCrossed(int sort, int k) {
-            return leastOfAll(sort) < k && greatestOfAll(sort) >= k;
+            return least(sort) < k && greatest(sort) >= k;
         }
 
         /** Where unlike ones meet there is one of each kind: so it is enough to look at the kind with fewer. */
         boolean fits(int sort, int k) {
-            boolean few = 2 * drawn <= used;
-            int end = few ? drawn : used;
-            int unlike = few ? OTHERS : FIGURE;
-            for (int i = few ? 0 : drawn; i < end; i++) {
+            boolean few = 2 * split <= used;
+            int end = few ? split : used;
+            int unlike = few ? secondKind() : firstKind;
+            for (int i = few ? 0 : split; i < end; i++) {
                 int x = Lines.mirrorX(sort, k, Rows.get(xs, i), Rows.get(ys, i));
                 int y = Lines.mirrorY(sort, k, Rows.get(xs, i), Rows.get(ys, i));
                 int quarter = Lines.mirrorQuarter(sort, Rows.get(quarters, i));
@@ -1113,20 +1148,34 @@ public final class OneSnip {
             return true;
         }
 
-        void turnInto(Layout behind, int sort, int k, int side) {
-            behind.clear();
+        /** With last, what lies behind the fold is made only as far as it is seen that no cut can be there. */
+        void turnInto(Layout behind, int sort, int k, int side, boolean last) {
+            behind.clear(firstKind);
             for (int i = 0; i < used; i++) {
                 int x = Rows.get(xs, i);
                 int y = Rows.get(ys, i);
                 int quarter = Rows.get(quarters, i);
-                int kind = i < drawn ? FIGURE : OTHERS;
+                int kind = i < split ? firstKind : secondKind();
                 if (Lines.isOn(Lines.strip(sort, x, y, quarter), k, side)) {
                     int mirrored = Lines.mirrorQuarter(sort, quarter);
                     behind.put(Lines.mirrorX(sort, k, x, y), Lines.mirrorY(sort, k, x, y), mirrored, kind);
                 } else {
                     behind.put(x, y, quarter, kind);
                 }
+                if (last && i >= split && behind.isEntangled()) {
+                    return;
+                }
             }
+        }
+
+        /** No line has the two kinds on its two sides; and none will, whatever is put besides. */
+        private boolean isEntangled() {
+            for (int sort = 0; sort < Lines.SORTS; sort++) {
+                if (firstCut(sort, 0) <= lastCut(sort, 0) || firstCut(sort, 1) <= lastCut(sort, 1)) {
+                    return false;
+                }
+            }
+            return true;
         }
 
         int cuts() {
@@ -1154,11 +1203,13 @@ public final class OneSnip {
 
         /** The least k that has all on the lesser side that is to be there. */
         private int firstCut(int sort, int side) {
-            return Math.max(Lines.LEAST, greatest(side == 0 ? FIGURE : OTHERS, sort) + 1);
+            int kind = side == 0 ? FIGURE : OTHERS;
+            return Math.max(Lines.LEAST, Rows.get(greatests, row(kind, sort)) + 1);
         }
 
         private int lastCut(int sort, int side) {
-            return Math.min(Lines.GREATEST, least(side == 0 ? OTHERS : FIGURE, sort));
+            int kind = side == 0 ? OTHERS : FIGURE;
+            return Math.min(Lines.GREATEST, Rows.get(leasts, row(kind, sort)));
         }
     }
 }

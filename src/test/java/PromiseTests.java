@@ -136,6 +136,11 @@ public final class PromiseTests {
         due("unfold()", x.unfold(), STATE);
         due("fold(0, 1, 0, true) on the new sheet", x.fold(0, 1, 0, true), 24);
         due("the knife is that of before", x.knife(7), 7);
+        for (int leaf = 0; leaf < 36; leaf++) {
+            due("facet(" + leaf + ", 6)", x.facet(leaf, 6), 0);
+            due("facet(" + leaf + ", 7)", x.facet(leaf, 7), 0);
+        }
+        due("same()", x.same(), 1);
     }
 
     private static void fold() {
@@ -545,6 +550,15 @@ public final class PromiseTests {
             due("thickness(" + row[0] + ", " + row[1] + ")", x.thickness(row[0], row[1]), row[2]);
         }
         linesRefused(x, 0);
+        // Of 1 by 1 folded once two places are left: their outer edges lie on two of x = 0, x = 1, y = 0, y = 1.
+        int[][] halves = {{2, 0, 0, 2, 2, 0}, {2, 1, 2, 0, 0, 2}, {3, 0, 0, 2, 0, 2}, {3, 1, 2, 0, 2, 0}};
+        for (int[] row : halves) {
+            OneSnip h = of(1);
+            h.fold(row[0], row[0] - 2, row[1], true);
+            for (int i = 0; i < 4; i++) {
+                due("thickness of one half, line " + i, h.thickness(i / 2, i % 2), row[2 + i]);
+            }
+        }
         OneSnip d = of(1);
         d.fold(2, 0, 0, true);
         due("thickness(1, 0) of the lower place", d.thickness(1, 0), 2);
@@ -896,6 +910,14 @@ public final class PromiseTests {
         x.mark(0, true);
         for (int f = 0; f <= 3; f++) {
             due("one leaf of 1 by 1: fewest(" + f + ")", x.fewest(f), NONE);
+        }
+        for (int leaf = 1; leaf < 4; leaf++) {
+            OneSnip one = of(1);
+            one.mark(leaf, true);
+            due("leaf " + leaf + " alone: fewest(3)", one.fewest(3), NONE);
+            one.markCell(0, 0, true);
+            one.mark(leaf, false);
+            due("all but leaf " + leaf + ": fewest(3)", one.fewest(3), NONE);
         }
         x.mark(1, true);
         due("two leaves: fewest(3)", x.fewest(3), 0);
