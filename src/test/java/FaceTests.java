@@ -23,8 +23,9 @@ public final class FaceTests {
         "way(int, int)", "ways(int)", "count(int)");
     private static final List<String> CONSTANTS = List.of("UNKNOWN", "BAD", "STATE", "FULL", "SPENT", "NONE");
     private static final List<String> FORBIDDEN = List.of("throw", "throws", "try", "catch", "synchronized",
-        "assert", "instanceof", "while", "System", "Object", "Random", "equals", "hashCode", "toString", "float",
-        "double", "protected", "package", "MAX_VALUE", "MIN_VALUE");
+        "assert", "protected", "package", "Object", "Random", "Thread", "hashCode", "nanoTime", "currentTimeMillis");
+    private static final List<String> IMPORTED = List.of("java.util.Arrays", "java.util.ArrayList", "java.util.List",
+        "java.util.Iterator");
 
     private static int wrong = 0;
 
@@ -83,14 +84,15 @@ public final class FaceTests {
             int modifiers = type.getModifiers();
             holds(type + " is private or package-visible and static", Modifier.isStatic(modifiers)
                 && !Modifier.isPublic(modifiers) && !Modifier.isProtected(modifiers));
-            holds(type + " has twenty fields at most", type.getDeclaredFields().length <= 20);
+            int fields = 0;
             for (Field field : type.getDeclaredFields()) {
-                boolean open = Modifier.isStatic(field.getModifiers()) && !Modifier.isFinal(field.getModifiers());
-                holds(field + " is no static state", !open);
+                boolean isStatic = Modifier.isStatic(field.getModifiers());
+                holds(field + " is no static state", !isStatic || Modifier.isFinal(field.getModifiers()));
+                fields += isStatic ? 0 : 1;
             }
+            holds(type + " has twenty fields at most", fields <= 20);
             for (Method method : type.getDeclaredMethods()) {
                 holds(method + " takes seven parameters at most", method.getParameterCount() <= 7);
-                holds(method + " is not public", !Modifier.isPublic(method.getModifiers()));
             }
         }
     }
@@ -102,12 +104,20 @@ public final class FaceTests {
         for (String word : FORBIDDEN) {
             holds("no " + word, !Pattern.compile("\\b" + word + "\\b").matcher(code).find());
         }
-        holds("no lambda, no method reference", !code.contains("->") && !code.contains("::"));
+        holds("no method reference", !code.contains("::"));
+        holds("no lambda", !Pattern.compile("(?m)^(?!\\s*(case|default)\\b).*->").matcher(code).find());
         Matcher imports = Pattern.compile("import ([^;]+);").matcher(code);
         while (imports.find()) {
-            holds("import " + imports.group(1), imports.group(1).equals("java.util.Arrays"));
+            holds("import " + imports.group(1), IMPORTED.contains(imports.group(1)));
         }
-        // Rows.get and Rows.put look at the index: so nothing else may have one.
+        if (code.contains("class Rows")) {
+            guarded(code);
+        }
+        lengths(lines);
+    }
+
+    /** The class looks at each index in Rows.get and Rows.put, and divides by nothing: as long as it is made so. */
+    private static void guarded(String code) {
         int bare = 0;
         for (String line : code.split("\n")) {
             if (line.matches(".*\\w\\[[^\\]]+\\].*") && !line.contains("new int[")) {
@@ -116,6 +126,9 @@ public final class FaceTests {
         }
         holds("an index stands in Rows.get and Rows.put alone", bare == 2);
         holds("no division", !code.contains("/") && !code.contains("%"));
+    }
+
+    private static void lengths(List<String> lines) {
         int begun = 0;
         for (int i = 0; i < lines.size(); i++) {
             if (lines.get(i).matches(" {4}( {4})?(public|private|static|int|void|boolean)[^;=]*\\) \\{")) {

@@ -1,6 +1,9 @@
 import java.util.Random;
 
-/** Runs of calls in no order, on OneSnip and on SlowSnip: they are to answer alike. Always the same runs. */
+/**
+ * Runs of calls in no order, on OneSnip and on SlowSnip: they are to answer alike. Always the same runs, and none of
+ * more than 512 calls.
+ */
 public final class SlowRuns {
     private static final int CALLS = 33;
     private static int wrong = 0;
@@ -17,7 +20,7 @@ public final class SlowRuns {
     }
 
     public static void main(String[] args) {
-        int runs = args.length > 0 ? Integer.parseInt(args[0]) : 120;
+        int runs = args.length > 0 ? Integer.parseInt(args[0]) : 240;
         long from = args.length > 1 ? Long.parseLong(args[1]) : 1;
         for (long seed = from; seed < from + runs && wrong < 5; seed++) {
             SlowRuns run = new SlowRuns(seed);
@@ -81,7 +84,7 @@ public final class SlowRuns {
     /** Many folds, so that there are eight, and all that tells of them behind each. */
     private void folding() {
         resize(1 + below(6));
-        for (int i = 0; i < 60; i++) {
+        for (int i = 0; i < 12; i++) {
             int sort = below(4);
             boolean over = coin();
             for (int attempt = 0; attempt < 6; attempt++) {
