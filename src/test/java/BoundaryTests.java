@@ -133,6 +133,33 @@ public final class BoundaryTests {
         y.sheet(1);
         y.sheet(6);
         dueAlike("large, small, large", told(y), told(of(6)));
+        for (int n = 1; n <= 6; n++) {
+            afterLarger(n, eight());
+            OneSnip steps = folded(6, 1, 1, 4, 2);
+            foldOn(steps, 2, 0, 1);
+            afterLarger(n, steps);
+        }
+    }
+
+    /** Nothing is left of a larger sheet, folded and cut: neither leaves beyond the new one, nor their creases. */
+    private static void afterLarger(int n, OneSnip x) {
+        x.mark(4 * n * n - 1, true);
+        x.cut(0, 3, 1);
+        x.take();
+        due("sheet(" + n + ")", x.sheet(n), 6);
+        dueAlike("all that is told", told(x), told(of(n)));
+        for (int row = 0; row <= n; row++) {
+            for (int column = 0; column <= n; column++) {
+                due("degree(" + column + ", " + row + ")", x.degree(column, row, false), 0);
+            }
+        }
+        for (int i = 0; i < 144; i++) {
+            int column = i / 4 % 6;
+            int row = i / 24;
+            boolean is = column < n && row < n;
+            due("at(" + column + ", " + row + ", " + i % 4 + ", 0)", x.at(column, row, i % 4, 0),
+                is ? 4 * (row * n + column) + i % 4 : NONE);
+        }
     }
 
     private static void cells() {
@@ -949,14 +976,28 @@ public final class BoundaryTests {
     }
 
     private static void numbers() {
-        OneSnip right = marked(2, 4, 5, 6, 7, 12, 13, 14, 15);
-        numbersOf(right, 0, new int[] {1101}, 1);
-        OneSnip twoCorners = marked(2, 0, 3, 13, 14);
-        numbersOf(twoCorners, 1, new int[] {1230, 1331}, 2);
-        OneSnip fourCorners = marked(2, 0, 3, 4, 5, 10, 11, 13, 14);
-        numbersOf(fourCorners, 2, new int[] {1100, 1110, 1331}, 8);
-        OneSnip star = marked(4, 0, 3, 12, 13, 21, 22, 26, 27, 36, 37, 40, 43, 50, 51, 61, 62);
-        numbersOf(star, 3, new int[] {1200, 1210, 1630, 1731}, 16);
+        numbersOf(2, new int[] {4, 5, 6, 7, 12, 13, 14, 15}, 0, new int[] {1101}, 1);
+        numbersOf(2, new int[] {0, 3, 13, 14}, 1, new int[] {1230, 1331}, 2);
+        // Two cells in a row at the edge: the fold lays one of them beyond the sheet.
+        numbersOf(3, new int[] {24, 25, 26, 27, 28, 29, 30, 31}, 1, new int[] {1430, 1200}, 2);
+        numbersOf(3, new int[] {20, 21, 22, 23, 32, 33, 34, 35}, 1, new int[] {1120, 1111}, 2);
+        numbersOf(3, new int[] {16, 17, 18, 19}, 2, new int[] {1020, 1330, 1200}, 8);
+        numbersOf(2, new int[] {0, 3, 4, 5, 10, 11, 13, 14}, 2, new int[] {1100, 1110, 1331}, 8);
+        int[] star = {0, 3, 12, 13, 21, 22, 26, 27, 36, 37, 40, 43, 50, 51, 61, 62};
+        numbersOf(4, star, 3, new int[] {1200, 1210, 1630, 1731}, 16);
+    }
+
+    /** The leaves, and all but them, for which the same folds do, and the other side of the cut. */
+    private static void numbersOf(int n, int[] leaves, int fewest, int[] told, int ways) {
+        OneSnip x = marked(n, leaves);
+        OneSnip others = of(n);
+        for (int leaf = 0; leaf < 4 * n * n; leaf++) {
+            others.mark(leaf, x.facet(leaf, 7) == 0);
+        }
+        numbersOf(x, fewest, told, ways);
+        int[] turned = told.clone();
+        turned[fewest] ^= 1;
+        numbersOf(others, fewest, turned, ways);
     }
 
     private static void numbersOf(OneSnip x, int fewest, int[] told, int ways) {
