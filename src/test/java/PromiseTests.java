@@ -43,6 +43,7 @@ public final class PromiseTests {
         spent();
         count();
         constants();
+        readme();
         if (wrong != 0) {
             System.out.println(wrong + " answers are not as due");
             System.exit(1);
@@ -1130,5 +1131,17 @@ public final class PromiseTests {
         due("FULL", OneSnip.FULL, FULL);
         due("SPENT", OneSnip.SPENT, SPENT);
         due("NONE", OneSnip.NONE, NONE);
+    }
+
+    private static void readme() {
+        promise = "the run in README.md";
+        OneSnip x = new OneSnip();
+        due("sheet(2)", x.sheet(2), 4);
+        due("fold(0, 1, 1, true)", x.fold(0, 1, 1, true), 8);
+        due("cut(3, 1, 0)", x.cut(3, 1, 0), 4);
+        due("pieces(false)", x.pieces(false), 2);
+        due("take()", x.take(), 4);
+        due("fewest(3)", x.fewest(3), 1);
+        due("way(3, 0)", x.way(3, 0), 1100);
     }
 }
